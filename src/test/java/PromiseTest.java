@@ -518,6 +518,11 @@ public final class PromiseTest {
         checks.answers(piece(50, 30, 5, 3, 0, 7, 0), 2, "a weak bath that mends a shift", r -> r.claim(1));
         // water 5, yarn 5: 10 off, fresh 10, without the water 5, without the yarn 5
         checks.answers(piece(50, 30, 6, 0, 5, 5, 0), 1, "water before yarn", r -> r.claim(0));
+        checks.answers(piece(50, 30, 6, 0, -5, -5, 0), 1, "water before yarn, below 0", r -> r.claim(0));
+        // water -5, yarn -6: 11 off, without the water 6, without the yarn 5
+        checks.answers(piece(50, 30, 6, 0, -5, -6, 0), 2, "the yarn by one, below 0", r -> r.claim(0));
+        checks.answers(piece(50, 30, 6, 0, 5, 6, 0), 2, "the yarn by one", r -> r.claim(0));
+        checks.answers(piece(50, 30, 6, 0, 6, 5, 0), 1, "the water by one", r -> r.claim(0));
         // (45, 27) at the strength 90, water 0, yarn (-4, -4): 16 off, fresh 8, without the yarn 8
         checks.answers(piece(50, 30, 6, 10, 0, -4, -4), 0, "bath before yarn", r -> r.claim(1));
         // (45, 30) at the strength 90, without a second axis, water -5: 10 off, fresh 5, without the water 5

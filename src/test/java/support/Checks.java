@@ -23,8 +23,14 @@ final class Checks {
         try {
             return Integer.toString(call.on(ring));
         } catch (RuntimeException e) {
-            return "throws." + e.getClass().getName();
+            return "throws." + e.getClass().getName() + (isThrownByRing(e) ? "" : " not by a throw of its own");
         }
+    }
+
+    /** A list's get throws what the document names too, but rule 7 of LANGUAGE.md wants the index tested before. */
+    private static boolean isThrownByRing(RuntimeException e) {
+        StackTraceElement[] trace = e.getStackTrace();
+        return trace.length > 0 && trace[0].getClassName().startsWith("DyeRing");
     }
 
     void same(String what, String got, String want) {
