@@ -1,11 +1,9 @@
-import java.util.NoSuchElementException;
-
 /** The promises 1 to 21 of ../shared/DOC.md, one by one; what is due was worked out by hand. */
 public final class PromiseTest {
-    private static final Class<IndexOutOfBoundsException> INDEX = IndexOutOfBoundsException.class;
-    private static final Class<IllegalArgumentException> ARGUMENT = IllegalArgumentException.class;
-    private static final Class<IllegalStateException> STATE = IllegalStateException.class;
-    private static final Class<NoSuchElementException> NO_ELEMENT = NoSuchElementException.class;
+    private static final Due INDEX = Due.INDEX;
+    private static final Due ARGUMENT = Due.ARGUMENT;
+    private static final Due STATE = Due.STATE;
+    private static final Due NO_ELEMENT = Due.NO_ELEMENT;
     private static final int[] NO_INDEX = {-1, Integer.MIN_VALUE, Integer.MAX_VALUE};
 
     private static final Checks checks = new Checks();
@@ -38,75 +36,6 @@ public final class PromiseTest {
         net();
         netLargeDebt();
         checks.end("PromiseTest");
-    }
-
-    // ---- states to begin from
-
-    /** The entries (50, 30) and (20, 20), the baths 0 of dyer 0 and 1 of dyer 1 for the first one, an order of each. */
-    private static DyeRing small() {
-        DyeRing ring = new DyeRing();
-        ring.entry(50, 30, 6);
-        ring.entry(20, 20, 0);
-        ring.bath(0, 0);
-        ring.bath(1, 0);
-        ring.order(0, 10, 0);
-        ring.order(1, 10, 0);
-        return ring;
-    }
-
-    /** The same, with all sorts of shifts, pieces, claims and debts. */
-    private static DyeRing used() {
-        DyeRing ring = small();
-        ring.water(0, 7);
-        ring.water(1, -3);
-        ring.yarn(1, 2, -2);
-        ring.yarn(2, -9, 10);
-        ring.shrinks(0, 7);
-        ring.shrinks(1, 90);
-        ring.order(0, 40, 1);
-        ring.order(0, 40, 2);
-        ring.order(0, 1, 0);
-        ring.dye(2, 0);
-        ring.dye(3, 1);
-        ring.claim(2);
-        ring.give(0, 1, 0, 1000);
-        ring.give(1, 2, 0, 333);
-        ring.give(3, 4, 1, 77);
-        ring.give(4, 3, 2, 5);
-        return ring;
-    }
-
-    /** Of all that has a limit, as much as there may be. */
-    private static DyeRing full() {
-        DyeRing ring = new DyeRing();
-        for (int i = 0; i < 12; i++) {
-            ring.entry(5 * i, 60 - 5 * i, i);
-        }
-        for (int i = 0; i < 10; i++) {
-            ring.bath(i % 3, i);
-        }
-        for (int i = 0; i < 40; i++) {
-            ring.order(i % 12, i + 1, i % 4);
-        }
-        return ring;
-    }
-
-    /** A bath of dyer 0 for one entry, and an order for it that is dyed there with the shifts and the strength. */
-    private static DyeRing piece(int first, int second, int tolerance, int lost, int water, int yarn0, int yarn1) {
-        DyeRing ring = new DyeRing();
-        ring.entry(first, second, tolerance);
-        ring.bath(0, 0);
-        int order = 0;
-        for (int left = lost; left > 0; left -= 40) {
-            ring.order(0, Math.min(left, 40), 3);
-            ring.dye(order, 0);
-            order++;
-        }
-        ring.water(0, water);
-        ring.yarn(0, yarn0, yarn1);
-        ring.order(0, 1, 0);
-        ring.dye(order, 0);
-        return ring;
     }
 
     // ---- promise 1
@@ -142,7 +71,7 @@ public final class PromiseTest {
         checks.refuses(DyeRing::new, INDEX, "apart without entries", r -> r.apart(0, 0));
         checks.refuses(DyeRing::new, INDEX, "strength without baths", r -> r.strength(0));
         checks.refuses(DyeRing::new, INDEX, "stateOf without orders", r -> r.stateOf(0));
-        DyeRing other = small();
+        DyeRing other = Rings.small();
         checks.answers(other, 0, "a yarn's shift on the axis 1 at first", r -> r.dye(0, 0));
         checks.refuses(DyeRing::new, INDEX, "a ring beside a used one", r -> r.stateOf(0));
     }
@@ -159,22 +88,22 @@ public final class PromiseTest {
         for (int number = 3; number < 12; number++) {
             checks.answers(ring, number, "the next entry", r -> r.entry(1, 2, 3));
         }
-        checks.same("a thirteenth", Checks.outcome(ring, r -> r.entry(1, 2, 3)), "throws." + STATE.getName());
+        checks.fails(ring, STATE, "a thirteenth", r -> r.entry(1, 2, 3));
 
         int[][] wrong = {{-1, 0, 0}, {61, 0, 0}, {0, -1, 0}, {0, 61, 0}, {0, 0, -1}, {0, 0, 21},
             {Integer.MIN_VALUE, 0, 0}, {0, Integer.MAX_VALUE, 0}, {0, 0, Integer.MAX_VALUE}};
         for (int[] w : wrong) {
-            checks.refuses(PromiseTest::small, ARGUMENT, "entry out of range", r -> r.entry(w[0], w[1], w[2]));
-            checks.refuses(PromiseTest::full, ARGUMENT, "entry out of range, full", r -> r.entry(w[0], w[1], w[2]));
+            checks.refuses(Rings::small, ARGUMENT, "entry out of range", r -> r.entry(w[0], w[1], w[2]));
+            checks.refuses(Rings::full, ARGUMENT, "entry out of range, full", r -> r.entry(w[0], w[1], w[2]));
         }
-        checks.refuses(PromiseTest::full, STATE, "entry, full", r -> r.entry(0, 0, 0));
+        checks.refuses(Rings::full, STATE, "entry, full", r -> r.entry(0, 0, 0));
     }
 
     // ---- promise 3
 
     private static void water() {
         checks.begin("promise 3");
-        DyeRing ring = small();
+        DyeRing ring = Rings.small();
         checks.answers(ring, 0, "water(2, 10)", r -> r.water(2, 10));
         checks.answers(ring, 10, "water(2, -10)", r -> r.water(2, -10));
         checks.answers(ring, -10, "water(2, 1)", r -> r.water(2, 1));
@@ -185,11 +114,11 @@ public final class PromiseTest {
         checks.answers(ring, 30, "and not on the axis 1", r -> r.colour(0, 1));
 
         for (int dyer : new int[] {-1, 3, Integer.MIN_VALUE, Integer.MAX_VALUE}) {
-            checks.refuses(PromiseTest::used, INDEX, "water, no dyer", r -> r.water(dyer, 1));
-            checks.refuses(PromiseTest::used, INDEX, "water, no dyer and no shift", r -> r.water(dyer, 11));
+            checks.refuses(Rings::used, INDEX, "water, no dyer", r -> r.water(dyer, 1));
+            checks.refuses(Rings::used, INDEX, "water, no dyer and no shift", r -> r.water(dyer, 11));
         }
         for (int shift : new int[] {-11, 11, Integer.MIN_VALUE, Integer.MAX_VALUE}) {
-            checks.refuses(PromiseTest::used, ARGUMENT, "water, no shift", r -> r.water(0, shift));
+            checks.refuses(Rings::used, ARGUMENT, "water, no shift", r -> r.water(0, shift));
         }
     }
 
@@ -197,7 +126,7 @@ public final class PromiseTest {
 
     private static void yarn() {
         checks.begin("promise 4");
-        DyeRing ring = small();
+        DyeRing ring = Rings.small();
         checks.answers(ring, 0, "yarn(3, 10, -10)", r -> r.yarn(3, 10, -10));
         checks.answers(ring, 10, "yarn(3, -10, 10)", r -> r.yarn(3, -10, 10));
         checks.answers(ring, -10, "yarn(3, 1, 2)", r -> r.yarn(3, 1, 2));
@@ -207,21 +136,21 @@ public final class PromiseTest {
         checks.answers(ring, 35, "its shift on the axis 1", r -> r.colour(0, 1));
 
         for (int yarn : new int[] {-1, 4, Integer.MIN_VALUE, Integer.MAX_VALUE}) {
-            checks.refuses(PromiseTest::used, INDEX, "yarn, no yarn", r -> r.yarn(yarn, 1, 1));
-            checks.refuses(PromiseTest::used, INDEX, "yarn, no yarn and no shift", r -> r.yarn(yarn, 11, 11));
+            checks.refuses(Rings::used, INDEX, "yarn, no yarn", r -> r.yarn(yarn, 1, 1));
+            checks.refuses(Rings::used, INDEX, "yarn, no yarn and no shift", r -> r.yarn(yarn, 11, 11));
         }
         for (int shift : new int[] {-11, 11, Integer.MIN_VALUE, Integer.MAX_VALUE}) {
-            checks.refuses(PromiseTest::used, ARGUMENT, "yarn, no first", r -> r.yarn(1, shift, 0));
-            checks.refuses(PromiseTest::used, ARGUMENT, "yarn, no second", r -> r.yarn(1, 0, shift));
+            checks.refuses(Rings::used, ARGUMENT, "yarn, no first", r -> r.yarn(1, shift, 0));
+            checks.refuses(Rings::used, ARGUMENT, "yarn, no second", r -> r.yarn(1, 0, shift));
         }
         refusedYarnKeepsBothShifts();
     }
 
     private static void refusedYarnKeepsBothShifts() {
-        DyeRing ring = small();
+        DyeRing ring = Rings.small();
         ring.yarn(0, 1, 2);
-        checks.same("yarn(0, 5, 11)", Checks.outcome(ring, r -> r.yarn(0, 5, 11)), "throws." + ARGUMENT.getName());
-        checks.same("yarn(0, 11, 5)", Checks.outcome(ring, r -> r.yarn(0, 11, 5)), "throws." + ARGUMENT.getName());
+        checks.fails(ring, ARGUMENT, "yarn(0, 5, 11)", r -> r.yarn(0, 5, 11));
+        checks.fails(ring, ARGUMENT, "yarn(0, 11, 5)", r -> r.yarn(0, 11, 5));
         checks.answers(ring, 3, "dye after refused yarns", r -> r.dye(0, 0));
         checks.answers(ring, 51, "colour(0, 0) after refused yarns", r -> r.colour(0, 0));
         checks.answers(ring, 32, "colour(0, 1) after refused yarns", r -> r.colour(0, 1));
@@ -242,11 +171,11 @@ public final class PromiseTest {
         checks.answers(ring, 120, "apart(2, 3)", r -> r.apart(2, 3));
         checks.answers(ring, 100, "apart(0, 2)", r -> r.apart(0, 2));
         for (int entry : new int[] {-1, 2, Integer.MIN_VALUE, Integer.MAX_VALUE}) {
-            checks.refuses(PromiseTest::small, INDEX, "apart, no entry", r -> r.apart(entry, 0));
-            checks.refuses(PromiseTest::small, INDEX, "apart, no other", r -> r.apart(0, entry));
+            checks.refuses(Rings::small, INDEX, "apart, no entry", r -> r.apart(entry, 0));
+            checks.refuses(Rings::small, INDEX, "apart, no other", r -> r.apart(0, entry));
         }
-        checks.refuses(PromiseTest::full, INDEX, "apart(12, 0)", r -> r.apart(12, 0));
-        checks.refuses(PromiseTest::full, INDEX, "apart(0, 12)", r -> r.apart(0, 12));
+        checks.refuses(Rings::full, INDEX, "apart(12, 0)", r -> r.apart(12, 0));
+        checks.refuses(Rings::full, INDEX, "apart(0, 12)", r -> r.apart(0, 12));
     }
 
     // ---- promise 6
@@ -260,26 +189,26 @@ public final class PromiseTest {
             checks.answers(ring, number, "the next bath", r -> r.bath(dyer, 0));
         }
         checks.answers(ring, 100, "a fresh bath's strength", r -> r.strength(9));
-        checks.same("an eleventh", Checks.outcome(ring, r -> r.bath(0, 0)), "throws." + STATE.getName());
+        checks.fails(ring, STATE, "an eleventh", r -> r.bath(0, 0));
 
         for (int none : NO_INDEX) {
-            checks.refuses(PromiseTest::small, INDEX, "bath, no dyer", r -> r.bath(none, 0));
-            checks.refuses(PromiseTest::small, INDEX, "bath, no entry", r -> r.bath(0, none));
-            checks.refuses(PromiseTest::full, INDEX, "bath, no dyer, full", r -> r.bath(none, 0));
-            checks.refuses(PromiseTest::full, INDEX, "bath, no entry, full", r -> r.bath(0, none));
+            checks.refuses(Rings::small, INDEX, "bath, no dyer", r -> r.bath(none, 0));
+            checks.refuses(Rings::small, INDEX, "bath, no entry", r -> r.bath(0, none));
+            checks.refuses(Rings::full, INDEX, "bath, no dyer, full", r -> r.bath(none, 0));
+            checks.refuses(Rings::full, INDEX, "bath, no entry, full", r -> r.bath(0, none));
         }
-        checks.refuses(PromiseTest::small, INDEX, "bath(3, 0)", r -> r.bath(3, 0));
-        checks.refuses(PromiseTest::small, INDEX, "bath(0, 2)", r -> r.bath(0, 2));
-        checks.refuses(PromiseTest::full, INDEX, "bath(3, 0), full", r -> r.bath(3, 0));
-        checks.refuses(PromiseTest::full, INDEX, "bath(0, 12), full", r -> r.bath(0, 12));
-        checks.refuses(PromiseTest::full, STATE, "bath, full", r -> r.bath(2, 11));
+        checks.refuses(Rings::small, INDEX, "bath(3, 0)", r -> r.bath(3, 0));
+        checks.refuses(Rings::small, INDEX, "bath(0, 2)", r -> r.bath(0, 2));
+        checks.refuses(Rings::full, INDEX, "bath(3, 0), full", r -> r.bath(3, 0));
+        checks.refuses(Rings::full, INDEX, "bath(0, 12), full", r -> r.bath(0, 12));
+        checks.refuses(Rings::full, STATE, "bath, full", r -> r.bath(2, 11));
     }
 
     // ---- promise 7
 
     private static void freshen() {
         checks.begin("promise 7");
-        DyeRing ring = used();
+        DyeRing ring = Rings.used();
         checks.answers(ring, 60, "freshen(0)", r -> r.freshen(0));
         checks.answers(ring, 100, "strength(0)", r -> r.strength(0));
         checks.answers(ring, 60, "the other bath's strength", r -> r.strength(1));
@@ -288,9 +217,9 @@ public final class PromiseTest {
         checks.answers(ring, 90, "freshen(0) after a piece", r -> r.freshen(0));
         checks.answers(ring, 59, "a piece's colour stays", r -> r.colour(2, 0));
         for (int bath : new int[] {-1, 2, Integer.MIN_VALUE, Integer.MAX_VALUE}) {
-            checks.refuses(PromiseTest::used, INDEX, "freshen, no bath", r -> r.freshen(bath));
+            checks.refuses(Rings::used, INDEX, "freshen, no bath", r -> r.freshen(bath));
         }
-        checks.refuses(PromiseTest::full, INDEX, "freshen(10)", r -> r.freshen(10));
+        checks.refuses(Rings::full, INDEX, "freshen(10)", r -> r.freshen(10));
     }
 
     // ---- promise 8
@@ -315,9 +244,9 @@ public final class PromiseTest {
         }
         checks.answers(ring, 0, "strength after more weight than was left", r -> r.strength(0));
         for (int bath : new int[] {-1, 2, Integer.MIN_VALUE, Integer.MAX_VALUE}) {
-            checks.refuses(PromiseTest::used, INDEX, "strength, no bath", r -> r.strength(bath));
+            checks.refuses(Rings::used, INDEX, "strength, no bath", r -> r.strength(bath));
         }
-        checks.refuses(PromiseTest::full, INDEX, "strength(10)", r -> r.strength(10));
+        checks.refuses(Rings::full, INDEX, "strength(10)", r -> r.strength(10));
     }
 
     // ---- promise 9
@@ -332,43 +261,44 @@ public final class PromiseTest {
         for (int number = 2; number < 40; number++) {
             checks.answers(ring, number, "the next order", r -> r.order(0, 7, 1));
         }
-        checks.same("a forty-first", Checks.outcome(ring, r -> r.order(0, 7, 1)), "throws." + STATE.getName());
+        checks.fails(ring, STATE, "a forty-first", r -> r.order(0, 7, 1));
 
         for (int none : NO_INDEX) {
-            checks.refuses(PromiseTest::small, INDEX, "order, no entry", r -> r.order(none, 1, 0));
-            checks.refuses(PromiseTest::small, INDEX, "order, no yarn", r -> r.order(0, 1, none));
-            checks.refuses(PromiseTest::full, INDEX, "order, no entry, nothing else either", r -> r.order(none, 0, 0));
-            checks.refuses(PromiseTest::full, INDEX, "order, no yarn, nothing else either", r -> r.order(0, 41, none));
+            checks.refuses(Rings::small, INDEX, "order, no entry", r -> r.order(none, 1, 0));
+            checks.refuses(Rings::small, INDEX, "order, no yarn", r -> r.order(0, 1, none));
+            checks.refuses(Rings::full, INDEX, "order, no entry, nothing else either", r -> r.order(none, 0, 0));
+            checks.refuses(Rings::full, INDEX, "order, no yarn, nothing else either", r -> r.order(0, 41, none));
         }
-        checks.refuses(PromiseTest::small, INDEX, "order(2, 1, 0)", r -> r.order(2, 1, 0));
-        checks.refuses(PromiseTest::small, INDEX, "order(0, 1, 4)", r -> r.order(0, 1, 4));
+        checks.refuses(Rings::small, INDEX, "order(2, 1, 0)", r -> r.order(2, 1, 0));
+        checks.refuses(Rings::small, INDEX, "order(0, 1, 4)", r -> r.order(0, 1, 4));
         for (int weight : new int[] {0, -1, 41, Integer.MIN_VALUE, Integer.MAX_VALUE}) {
-            checks.refuses(PromiseTest::small, ARGUMENT, "order, no weight", r -> r.order(0, weight, 0));
-            checks.refuses(PromiseTest::full, ARGUMENT, "order, no weight, full", r -> r.order(0, weight, 0));
+            checks.refuses(Rings::small, ARGUMENT, "order, no weight", r -> r.order(0, weight, 0));
+            checks.refuses(Rings::full, ARGUMENT, "order, no weight, full", r -> r.order(0, weight, 0));
         }
-        checks.refuses(PromiseTest::full, STATE, "order, full", r -> r.order(11, 40, 3));
+        checks.refuses(Rings::full, STATE, "order, full", r -> r.order(11, 40, 3));
     }
 
     // ---- promise 10
 
     private static void place() {
         checks.begin("promise 10");
-        DyeRing ring = small();
+        DyeRing ring = Rings.small();
         checks.answers(ring, 0, "of two fresh baths the lowest", r -> r.place(0));
         checks.answers(ring, 90, "strength(0)", r -> r.strength(0));
         checks.answers(ring, 100, "strength(1)", r -> r.strength(1));
         checks.answers(ring, 1, "stateOf(0)", r -> r.stateOf(0));
-        checks.same("place(0) again", Checks.outcome(ring, r -> r.place(0)), "throws." + STATE.getName());
+        checks.fails(ring, STATE, "place(0) again", r -> r.place(0));
         checks.answers(ring, 90, "strength(0) after a refused place", r -> r.strength(0));
 
         for (int order : new int[] {-1, 5, Integer.MIN_VALUE, Integer.MAX_VALUE}) {
-            checks.refuses(PromiseTest::used, INDEX, "place, no order", r -> r.place(order));
+            checks.refuses(Rings::used, INDEX, "place, no order", r -> r.place(order));
         }
-        checks.refuses(PromiseTest::full, INDEX, "place(40)", r -> r.place(40));
-        checks.refuses(PromiseTest::used, STATE, "place a claimed one", r -> r.place(2));
-        checks.refuses(PromiseTest::used, STATE, "place a dyed one", r -> r.place(3));
-        checks.refuses(PromiseTest::used, NO_ELEMENT, "place without a bath for its entry", r -> r.place(1));
-        checks.refuses(() -> piece(50, 30, 0, 0, 0, 0, 0), STATE, "a dyed one that no bath suits", r -> r.place(0));
+        checks.refuses(Rings::full, INDEX, "place(40)", r -> r.place(40));
+        checks.refuses(Rings::used, STATE, "place a claimed one", r -> r.place(2));
+        checks.refuses(Rings::used, STATE, "place a dyed one", r -> r.place(3));
+        checks.refuses(Rings::used, NO_ELEMENT, "place without a bath for its entry", r -> r.place(1));
+        checks.refuses(() -> Rings.piece(50, 30, 0, 0, 0, 0, 0), STATE, "a dyed one that no bath suits",
+                r -> r.place(0));
         checks.refuses(PromiseTest::waitingBeforeOffBath, NO_ELEMENT, "place without a right bath", r -> r.place(0));
     }
 
@@ -413,8 +343,7 @@ public final class PromiseTest {
         // the yarn 1 takes bath 1, of strength 85, from (49, 25) to (39, 25); bath 0 gives (39, 29)
         ring.yarn(1, -10, 0);
         int fifth = ring.order(0, 2, 1);
-        checks.same("yarn makes all wrong", Checks.outcome(ring, r -> r.place(fifth)),
-                "throws." + NO_ELEMENT.getName());
+        checks.fails(ring, NO_ELEMENT, "yarn makes all wrong", r -> r.place(fifth));
         checks.answers(ring, 0, "and the order waits on", r -> r.stateOf(fifth));
         int sixth = ring.order(1, 2, 0);
         checks.answers(ring, 4, "an entry of the same colour has its own bath", r -> r.place(sixth));
@@ -439,7 +368,7 @@ public final class PromiseTest {
 
     private static void dye() {
         checks.begin("promise 11");
-        DyeRing ring = used();
+        DyeRing ring = Rings.used();
         ring.water(0, -2);
         ring.yarn(0, -4, 3);
         // bath 0, of strength 60, gives (30, 18): (24, 21) with the shifts, against (50, 30)
@@ -448,29 +377,21 @@ public final class PromiseTest {
         checks.answers(ring, 1, "stateOf(0)", r -> r.stateOf(0));
         checks.answers(ring, 24, "colour(0, 0)", r -> r.colour(0, 0));
         checks.answers(ring, 21, "colour(0, 1)", r -> r.colour(0, 1));
-        checks.answers(small(), 0, "dye in a bath that is just right", r -> r.dye(0, 1));
+        checks.answers(Rings.small(), 0, "dye in a bath that is just right", r -> r.dye(0, 1));
 
         for (int none : NO_INDEX) {
-            checks.refuses(PromiseTest::used, INDEX, "dye, no order", r -> r.dye(none, 0));
-            checks.refuses(PromiseTest::used, INDEX, "dye, no bath", r -> r.dye(0, none));
+            checks.refuses(Rings::used, INDEX, "dye, no order", r -> r.dye(none, 0));
+            checks.refuses(Rings::used, INDEX, "dye, no bath", r -> r.dye(0, none));
         }
-        checks.refuses(PromiseTest::used, INDEX, "dye(5, 0)", r -> r.dye(5, 0));
-        checks.refuses(PromiseTest::used, INDEX, "dye(0, 2)", r -> r.dye(0, 2));
-        checks.refuses(PromiseTest::used, INDEX, "a dyed order, no bath", r -> r.dye(3, 2));
-        checks.refuses(PromiseTest::used, ARGUMENT, "dye, a bath for another entry", r -> r.dye(1, 0));
-        checks.refuses(PromiseTest::used, STATE, "dye a claimed one", r -> r.dye(2, 0));
-        checks.refuses(PromiseTest::used, STATE, "dye a dyed one", r -> r.dye(3, 0));
-        checks.refuses(PromiseTest::dyedBesideOtherBath, ARGUMENT, "dyed, a bath for another entry", r -> r.dye(3, 2));
-        checks.refuses(PromiseTest::dyedBesideOtherBath, ARGUMENT, "an entry of the same colour", r -> r.dye(0, 3));
+        checks.refuses(Rings::used, INDEX, "dye(5, 0)", r -> r.dye(5, 0));
+        checks.refuses(Rings::used, INDEX, "dye(0, 2)", r -> r.dye(0, 2));
+        checks.refuses(Rings::used, INDEX, "a dyed order, no bath", r -> r.dye(3, 2));
+        checks.refuses(Rings::used, ARGUMENT, "dye, a bath for another entry", r -> r.dye(1, 0));
+        checks.refuses(Rings::used, STATE, "dye a claimed one", r -> r.dye(2, 0));
+        checks.refuses(Rings::used, STATE, "dye a dyed one", r -> r.dye(3, 0));
+        checks.refuses(Rings::usedWithOtherBaths, ARGUMENT, "dyed, a bath for another entry", r -> r.dye(3, 2));
+        checks.refuses(Rings::usedWithOtherBaths, ARGUMENT, "an entry of the same colour", r -> r.dye(0, 3));
         roundsDown();
-    }
-
-    private static DyeRing dyedBesideOtherBath() {
-        DyeRing ring = used();
-        ring.bath(0, 1);
-        ring.entry(50, 30, 6);
-        ring.bath(0, 2);
-        return ring;
     }
 
     private static void roundsDown() {
@@ -490,78 +411,77 @@ public final class PromiseTest {
 
     private static void claim() {
         checks.begin("promise 12");
-        DyeRing ring = used();
+        DyeRing ring = Rings.used();
         // order 3 has the colour (38, 40) in bath 1: at the distance 22; without the yarn (47, 30)
         checks.answers(ring, 2, "claim(3)", r -> r.claim(3));
         checks.answers(ring, 2, "stateOf(3)", r -> r.stateOf(3));
-        checks.same("claim(3) again", Checks.outcome(ring, r -> r.claim(3)), "throws." + STATE.getName());
+        checks.fails(ring, STATE, "claim(3) again", r -> r.claim(3));
         checks.answers(ring, 1, "blamed(1, YARN)", r -> r.blamed(1, 2));
         for (int order : new int[] {-1, 5, Integer.MIN_VALUE, Integer.MAX_VALUE}) {
-            checks.refuses(PromiseTest::used, INDEX, "claim, no order", r -> r.claim(order));
+            checks.refuses(Rings::used, INDEX, "claim, no order", r -> r.claim(order));
         }
-        checks.refuses(PromiseTest::used, STATE, "claim a waiting one", r -> r.claim(0));
-        checks.refuses(PromiseTest::used, STATE, "claim a claimed one", r -> r.claim(2));
-        checks.refuses(() -> piece(50, 30, 6, 0, 4, 0, 2), STATE, "claim at just the tolerance", r -> r.claim(0));
-        checks.refuses(() -> piece(50, 30, 0, 0, 0, 0, 0), STATE, "claim what is just right", r -> r.claim(0));
-        checks.answers(piece(50, 30, 6, 0, 4, 0, 3), 1, "claim just above the tolerance", r -> r.claim(0));
-        checks.answers(piece(50, 30, 0, 0, 0, -1, 0), 2, "claim at the tolerance 0", r -> r.claim(0));
+        checks.refuses(Rings::used, STATE, "claim a waiting one", r -> r.claim(0));
+        checks.refuses(Rings::used, STATE, "claim a claimed one", r -> r.claim(2));
+        checks.refuses(() -> Rings.piece(50, 30, 6, 0, 4, 0, 2), STATE, "claim at just the tolerance", r -> r.claim(0));
+        checks.refuses(() -> Rings.piece(50, 30, 0, 0, 0, 0, 0), STATE, "claim what is just right", r -> r.claim(0));
+        checks.answers(Rings.piece(50, 30, 6, 0, 4, 0, 3), 1, "claim just above the tolerance", r -> r.claim(0));
+        checks.answers(Rings.piece(50, 30, 0, 0, 0, -1, 0), 2, "claim at the tolerance 0", r -> r.claim(0));
     }
 
     private static void claimBlames() {
         // (40, 24) at the strength 80, with the water (37, 24): the bath's lack is the most
-        checks.answers(piece(50, 30, 6, 20, -3, 0, 0), 0, "the bath's lack", r -> r.claim(1));
+        checks.answers(Rings.piece(50, 30, 6, 20, -3, 0, 0), 0, "the bath's lack", r -> r.claim(0));
         // (50, 30) and 9 on the axis 0
-        checks.answers(piece(50, 30, 6, 0, 9, 0, 0), 1, "the water's shift", r -> r.claim(0));
+        checks.answers(Rings.piece(50, 30, 6, 0, 9, 0, 0), 1, "the water's shift", r -> r.claim(0));
         // (50, 30), yarn (4, 4) and water 5: 13 off; 13 with a fresh bath, 8 without the water, 5 without the yarn
-        checks.answers(piece(50, 30, 6, 0, 5, 4, 4), 2, "the yarn's shift on both axes", r -> r.claim(0));
+        checks.answers(Rings.piece(50, 30, 6, 0, 5, 4, 4), 2, "the yarn's shift on both axes", r -> r.claim(0));
         // (48, 29) at the strength 97, of the yarn (55, 29): 6 off; fresh 7, without the water 6, without the yarn 3
-        checks.answers(piece(50, 30, 5, 3, 0, 7, 0), 2, "a weak bath that mends a shift", r -> r.claim(1));
+        checks.answers(Rings.piece(50, 30, 5, 3, 0, 7, 0), 2, "a weak bath that mends a shift", r -> r.claim(0));
         // water 5, yarn 5: 10 off, fresh 10, without the water 5, without the yarn 5
-        checks.answers(piece(50, 30, 6, 0, 5, 5, 0), 1, "water before yarn", r -> r.claim(0));
-        checks.answers(piece(50, 30, 6, 0, -5, -5, 0), 1, "water before yarn, below 0", r -> r.claim(0));
+        checks.answers(Rings.piece(50, 30, 6, 0, 5, 5, 0), 1, "water before yarn", r -> r.claim(0));
+        checks.answers(Rings.piece(50, 30, 6, 0, -5, -5, 0), 1, "water before yarn, below 0", r -> r.claim(0));
         // water -5, yarn -6: 11 off, without the water 6, without the yarn 5
-        checks.answers(piece(50, 30, 6, 0, -5, -6, 0), 2, "the yarn by one, below 0", r -> r.claim(0));
-        checks.answers(piece(50, 30, 6, 0, 5, 6, 0), 2, "the yarn by one", r -> r.claim(0));
-        checks.answers(piece(50, 30, 6, 0, 6, 5, 0), 1, "the water by one", r -> r.claim(0));
+        checks.answers(Rings.piece(50, 30, 6, 0, -5, -6, 0), 2, "the yarn by one, below 0", r -> r.claim(0));
+        checks.answers(Rings.piece(50, 30, 6, 0, 5, 6, 0), 2, "the yarn by one", r -> r.claim(0));
+        checks.answers(Rings.piece(50, 30, 6, 0, 6, 5, 0), 1, "the water by one", r -> r.claim(0));
         // (45, 27) at the strength 90, water 0, yarn (-4, -4): 16 off, fresh 8, without the yarn 8
-        checks.answers(piece(50, 30, 6, 10, 0, -4, -4), 0, "bath before yarn", r -> r.claim(1));
+        checks.answers(Rings.piece(50, 30, 6, 10, 0, -4, -4), 0, "bath before yarn", r -> r.claim(0));
         // (45, 30) at the strength 90, without a second axis, water -5: 10 off, fresh 5, without the water 5
-        checks.answers(piece(50, 0, 6, 10, -5, 0, 0), 0, "bath before water", r -> r.claim(1));
+        checks.answers(Rings.piece(50, 0, 6, 10, -5, 0, 0), 0, "bath before water", r -> r.claim(0));
         // water 8 and yarn -8 take each other away; the yarn's 9 on the axis 1 stays
-        checks.answers(piece(50, 30, 6, 0, 8, -8, 9), 2, "without the yarn 8, fresh 9, without the water 17",
+        checks.answers(Rings.piece(50, 30, 6, 0, 8, -8, 9), 2, "without the yarn 8, fresh 9, without the water 17",
                 r -> r.claim(0));
         // strength 0: water 10, yarn (10, 10): (20, 10) against (60, 60), fresh (80, 70)
-        checks.answers(piece(60, 60, 20, 120, 10, 10, 10), 0, "an empty bath", r -> r.claim(3));
+        checks.answers(Rings.piece(60, 60, 20, 120, 10, 10, 10), 0, "an empty bath", r -> r.claim(0));
         // (0, 0) with water -10 and yarn (-10, -10): without the water 20, without the yarn 10
-        checks.answers(piece(0, 0, 20, 0, -10, -10, -10), 2, "colours below 0", r -> r.claim(0));
+        checks.answers(Rings.piece(0, 0, 20, 0, -10, -10, -10), 2, "colours below 0", r -> r.claim(0));
     }
 
     /** What is to blame does not change with what is set after the dyeing. */
     private static void claimRemembers() {
-        DyeRing ring = piece(50, 30, 6, 0, 9, 1, 0);
+        DyeRing ring = Rings.piece(50, 30, 6, 0, 9, 1, 0);
         ring.water(0, 0);
         ring.yarn(0, 10, 10);
         ring.dye(ring.order(0, 40, 0), 0);
         checks.answers(ring, 1, "water as it was then", r -> r.claim(0));
-        DyeRing other = piece(50, 30, 6, 0, 1, 9, 1);
+        DyeRing other = Rings.piece(50, 30, 6, 0, 1, 9, 1);
         other.water(0, 10);
         other.yarn(0, 0, 0);
         checks.answers(other, 2, "yarn as it was then", r -> r.claim(0));
-        DyeRing weak = piece(50, 30, 6, 40, 5, 0, 0);
+        DyeRing weak = Rings.piece(50, 30, 6, 40, 5, 0, 0);
         weak.freshen(0);
-        checks.answers(weak, 0, "strength as it was then", r -> r.claim(1));
-        DyeRing right = piece(50, 30, 6, 0, 0, 0, 0);
+        checks.answers(weak, 0, "strength as it was then", r -> r.claim(0));
+        DyeRing right = Rings.piece(50, 30, 6, 0, 0, 0, 0);
         right.water(0, 10);
         right.yarn(0, 10, 10);
-        checks.same("a piece that was right stays so", Checks.outcome(right, r -> r.claim(0)),
-                "throws." + STATE.getName());
+        checks.fails(right, STATE, "a piece that was right stays so", r -> r.claim(0));
     }
 
     // ---- promise 13
 
     private static void stateOf() {
         checks.begin("promise 13");
-        DyeRing ring = used();
+        DyeRing ring = Rings.used();
         checks.answers(ring, DyeRing.WAITING, "stateOf(0)", r -> r.stateOf(0));
         checks.answers(ring, DyeRing.CLAIMED, "stateOf(2)", r -> r.stateOf(2));
         checks.answers(ring, DyeRing.DYED, "stateOf(3)", r -> r.stateOf(3));
@@ -571,9 +491,9 @@ public final class PromiseTest {
         Checks.outcome(ring, r -> r.claim(4));
         checks.answers(ring, DyeRing.DYED, "stateOf(4) after a refused claim", r -> r.stateOf(4));
         for (int order : new int[] {-1, 5, Integer.MIN_VALUE, Integer.MAX_VALUE}) {
-            checks.refuses(PromiseTest::used, INDEX, "stateOf, no order", r -> r.stateOf(order));
+            checks.refuses(Rings::used, INDEX, "stateOf, no order", r -> r.stateOf(order));
         }
-        checks.refuses(PromiseTest::full, INDEX, "stateOf(40)", r -> r.stateOf(40));
+        checks.refuses(Rings::full, INDEX, "stateOf(40)", r -> r.stateOf(40));
         checks.same("the constants", DyeRing.NONE + " " + DyeRing.WAITING + DyeRing.DYED + DyeRing.CLAIMED + " "
                 + DyeRing.BATH + DyeRing.WATER + DyeRing.YARN, "-1 012 012");
     }
@@ -582,7 +502,7 @@ public final class PromiseTest {
 
     private static void colour() {
         checks.begin("promise 14");
-        DyeRing ring = used();
+        DyeRing ring = Rings.used();
         checks.answers(ring, 59, "colour(2, 0)", r -> r.colour(2, 0));
         checks.answers(ring, 28, "colour(2, 1)", r -> r.colour(2, 1));
         checks.answers(ring, 38, "colour(3, 0)", r -> r.colour(3, 0));
@@ -596,10 +516,10 @@ public final class PromiseTest {
         checks.answers(ring, 59, "colour(2, 0) for ever", r -> r.colour(2, 0));
         checks.answers(ring, 28, "colour(2, 1) for ever", r -> r.colour(2, 1));
         checks.answers(ring, 38, "colour(3, 0) of a claimed one", r -> r.colour(3, 0));
-        DyeRing dark = piece(0, 0, 20, 0, -10, -10, -10);
+        DyeRing dark = Rings.piece(0, 0, 20, 0, -10, -10, -10);
         checks.answers(dark, -20, "a colour below 0 on the axis 0", r -> r.colour(0, 0));
         checks.answers(dark, -10, "a colour below 0 on the axis 1", r -> r.colour(0, 1));
-        DyeRing bright = piece(60, 60, 20, 0, 10, 10, 10);
+        DyeRing bright = Rings.piece(60, 60, 20, 0, 10, 10, 10);
         checks.answers(bright, 80, "a colour above 60 on the axis 0", r -> r.colour(0, 0));
         checks.answers(bright, 70, "a colour above 60 on the axis 1", r -> r.colour(0, 1));
         refusesColour("colour", DyeRing::colour);
@@ -612,14 +532,14 @@ public final class PromiseTest {
 
     private static void refusesColour(String name, ColourCall call) {
         for (int none : NO_INDEX) {
-            checks.refuses(PromiseTest::used, INDEX, name + ", no order", r -> call.of(r, none, 0));
-            checks.refuses(PromiseTest::used, INDEX, name + ", no axis", r -> call.of(r, 2, none));
+            checks.refuses(Rings::used, INDEX, name + ", no order", r -> call.of(r, none, 0));
+            checks.refuses(Rings::used, INDEX, name + ", no axis", r -> call.of(r, 2, none));
         }
-        checks.refuses(PromiseTest::used, INDEX, name + "(5, 0)", r -> call.of(r, 5, 0));
-        checks.refuses(PromiseTest::used, INDEX, name + "(2, 2)", r -> call.of(r, 2, 2));
-        checks.refuses(PromiseTest::used, INDEX, name + ", waiting, no axis", r -> call.of(r, 0, 2));
-        checks.refuses(PromiseTest::used, STATE, name + ", waiting", r -> call.of(r, 0, 0));
-        checks.refuses(PromiseTest::used, STATE, name + ", waiting", r -> call.of(r, 1, 1));
+        checks.refuses(Rings::used, INDEX, name + "(5, 0)", r -> call.of(r, 5, 0));
+        checks.refuses(Rings::used, INDEX, name + "(2, 2)", r -> call.of(r, 2, 2));
+        checks.refuses(Rings::used, INDEX, name + ", waiting, no axis", r -> call.of(r, 0, 2));
+        checks.refuses(Rings::used, STATE, name + ", waiting", r -> call.of(r, 0, 0));
+        checks.refuses(Rings::used, STATE, name + ", waiting", r -> call.of(r, 1, 1));
     }
 
     // ---- promise 15
@@ -659,11 +579,11 @@ public final class PromiseTest {
             checks.answers(ring, first, "colour(" + turn + ", 0)", r -> r.colour(turn, 0));
             checks.answers(ring, second, "colour(" + turn + ", 1)", r -> r.colour(turn, 1));
         }
-        DyeRing claimed = used();
+        DyeRing claimed = Rings.used();
         checks.answers(claimed, 59, "colourByBath(2, 0) of a claimed one", r -> r.colourByBath(2, 0));
-        DyeRing empty = piece(60, 60, 20, 120, -10, -10, 10);
-        checks.answers(empty, -20, "colourByBath(3, 0) of an empty bath", r -> r.colourByBath(3, 0));
-        checks.answers(empty, 10, "colourByBath(3, 1) of an empty bath", r -> r.colourByBath(3, 1));
+        DyeRing empty = Rings.piece(60, 60, 20, 120, -10, -10, 10);
+        checks.answers(empty, -20, "colourByBath(0, 0) of an empty bath", r -> r.colourByBath(0, 0));
+        checks.answers(empty, 10, "colourByBath(0, 1) of an empty bath", r -> r.colourByBath(0, 1));
         refusesColour("colourByBath", DyeRing::colourByBath);
     }
 
@@ -700,11 +620,11 @@ public final class PromiseTest {
         Checks.outcome(ring, r -> r.claim(0));
         checks.answers(ring, 2, "blamed(2, YARN) after a refused claim", r -> r.blamed(2, 2));
         for (int dyer : new int[] {-1, 3, Integer.MIN_VALUE, Integer.MAX_VALUE}) {
-            checks.refuses(PromiseTest::used, INDEX, "blamed, no dyer", r -> r.blamed(dyer, 0));
-            checks.refuses(PromiseTest::used, INDEX, "blamed, no dyer and no blame", r -> r.blamed(dyer, 3));
+            checks.refuses(Rings::used, INDEX, "blamed, no dyer", r -> r.blamed(dyer, 0));
+            checks.refuses(Rings::used, INDEX, "blamed, no dyer and no blame", r -> r.blamed(dyer, 3));
         }
         for (int blame : new int[] {-1, 3, Integer.MIN_VALUE, Integer.MAX_VALUE}) {
-            checks.refuses(PromiseTest::used, ARGUMENT, "blamed, no blame", r -> r.blamed(0, blame));
+            checks.refuses(Rings::used, ARGUMENT, "blamed, no blame", r -> r.blamed(0, blame));
         }
     }
 
@@ -723,11 +643,11 @@ public final class PromiseTest {
         checks.answers(ring, 0, "shrinks(0, 33)", r -> r.shrinks(0, 33));
         checks.answers(ring, 33, "shrinks(0, 33) again", r -> r.shrinks(0, 33));
         for (int cloth : new int[] {-1, 3, Integer.MIN_VALUE, Integer.MAX_VALUE}) {
-            checks.refuses(PromiseTest::used, INDEX, "shrinks, no cloth", r -> r.shrinks(cloth, 1));
-            checks.refuses(PromiseTest::used, INDEX, "shrinks, no cloth, no share", r -> r.shrinks(cloth, 91));
+            checks.refuses(Rings::used, INDEX, "shrinks, no cloth", r -> r.shrinks(cloth, 1));
+            checks.refuses(Rings::used, INDEX, "shrinks, no cloth, no share", r -> r.shrinks(cloth, 91));
         }
         for (int hundredths : new int[] {-1, 91, Integer.MIN_VALUE, Integer.MAX_VALUE}) {
-            checks.refuses(PromiseTest::used, ARGUMENT, "shrinks, no share", r -> r.shrinks(0, hundredths));
+            checks.refuses(Rings::used, ARGUMENT, "shrinks, no share", r -> r.shrinks(0, hundredths));
         }
     }
 
@@ -752,34 +672,25 @@ public final class PromiseTest {
         checks.answers(ring, 0, "what shrinks away", r -> r.give(3, 2, 1, 1));
 
         for (int none : new int[] {-1, 5, Integer.MIN_VALUE, Integer.MAX_VALUE}) {
-            checks.refuses(PromiseTest::used, INDEX, "give, no person", r -> r.give(none, 0, 0, 1));
-            checks.refuses(PromiseTest::used, INDEX, "give, nobody to give to", r -> r.give(0, none, 0, 1));
-            checks.refuses(PromiseTest::used, INDEX, "give, none to none", r -> r.give(none, none, 0, 0));
+            checks.refuses(Rings::used, INDEX, "give, no person", r -> r.give(none, 0, 0, 1));
+            checks.refuses(Rings::used, INDEX, "give, nobody to give to", r -> r.give(0, none, 0, 1));
+            checks.refuses(Rings::used, INDEX, "give, none to none", r -> r.give(none, none, 0, 0));
         }
         for (int cloth : new int[] {-1, 3, Integer.MIN_VALUE, Integer.MAX_VALUE}) {
-            checks.refuses(PromiseTest::used, INDEX, "give, no cloth", r -> r.give(0, 1, cloth, 1));
-            checks.refuses(PromiseTest::used, INDEX, "give, no cloth, to oneself", r -> r.give(1, 1, cloth, 0));
+            checks.refuses(Rings::used, INDEX, "give, no cloth", r -> r.give(0, 1, cloth, 1));
+            checks.refuses(Rings::used, INDEX, "give, no cloth, to oneself", r -> r.give(1, 1, cloth, 0));
         }
         for (int person = 0; person < 5; person++) {
             int p = person;
-            checks.refuses(PromiseTest::used, ARGUMENT, "give to oneself", r -> r.give(p, p, 0, 1));
+            checks.refuses(Rings::used, ARGUMENT, "give to oneself", r -> r.give(p, p, 0, 1));
         }
         for (int length : new int[] {0, -1, 1001, Integer.MIN_VALUE, Integer.MAX_VALUE}) {
-            checks.refuses(PromiseTest::used, ARGUMENT, "give, no length", r -> r.give(0, 1, 0, length));
+            checks.refuses(Rings::used, ARGUMENT, "give, no length", r -> r.give(0, 1, 0, length));
         }
-    }
-
-    /** The person 1 owes the person 0 as much as anybody may owe. */
-    private static DyeRing deepInDebt() {
-        DyeRing ring = new DyeRing();
-        for (int i = 0; i < 100; i++) {
-            ring.give(0, 1, 0, 1000);
-        }
-        return ring;
     }
 
     private static void giveLimit() {
-        DyeRing ring = deepInDebt();
+        DyeRing ring = Rings.deepInDebt(0);
         checks.answers(ring, 100000, "owes just the limit", r -> r.owes(1, 0, 0));
         checks.answers(ring, 1, "the other way there is room", r -> r.give(1, 0, 0, 1));
         checks.answers(ring, 1, "in another cloth too", r -> r.give(0, 1, 1, 1));
@@ -787,18 +698,18 @@ public final class PromiseTest {
         checks.answers(ring, 1, "and from another person", r -> r.give(2, 1, 0, 1));
         ring.shrinks(0, 1);
         checks.answers(ring, 100000, "what shrinks away is not too much", r -> r.give(0, 1, 0, 1));
-        checks.same("one that is left is", Checks.outcome(ring, r -> r.give(0, 1, 0, 2)), "throws." + STATE.getName());
-        checks.refuses(PromiseTest::deepInDebt, STATE, "give(0, 1, 0, 1)", r -> r.give(0, 1, 0, 1));
-        checks.refuses(PromiseTest::deepInDebt, STATE, "give(0, 1, 0, 1000)", r -> r.give(0, 1, 0, 1000));
-        checks.refuses(PromiseTest::deepInDebt, ARGUMENT, "no length, deep in debt", r -> r.give(0, 1, 0, 1001));
-        checks.refuses(PromiseTest::deepInDebt, INDEX, "no cloth, deep in debt", r -> r.give(0, 1, 3, 1000));
+        checks.fails(ring, STATE, "one that is left is", r -> r.give(0, 1, 0, 2));
+        checks.refuses(() -> Rings.deepInDebt(0), STATE, "give(0, 1, 0, 1)", r -> r.give(0, 1, 0, 1));
+        checks.refuses(() -> Rings.deepInDebt(0), STATE, "give(0, 1, 0, 1000)", r -> r.give(0, 1, 0, 1000));
+        checks.refuses(() -> Rings.deepInDebt(0), ARGUMENT, "no length, deep in debt", r -> r.give(0, 1, 0, 1001));
+        checks.refuses(() -> Rings.deepInDebt(0), INDEX, "no cloth, deep in debt", r -> r.give(0, 1, 3, 1000));
     }
 
     // ---- promise 19
 
     private static void owes() {
         checks.begin("promise 19");
-        DyeRing ring = used();
+        DyeRing ring = Rings.used();
         checks.answers(ring, 930, "owes(1, 0, 0)", r -> r.owes(1, 0, 0));
         checks.answers(ring, 0, "owes(0, 1, 0)", r -> r.owes(0, 1, 0));
         checks.answers(ring, 309, "owes(2, 1, 0)", r -> r.owes(2, 1, 0));
@@ -810,13 +721,13 @@ public final class PromiseTest {
             checks.answers(ring, 0, "owes to oneself", r -> r.owes(p, p, 0));
         }
         for (int none : new int[] {-1, 5, Integer.MIN_VALUE, Integer.MAX_VALUE}) {
-            checks.refuses(PromiseTest::used, INDEX, "owes, no person", r -> r.owes(none, 0, 0));
-            checks.refuses(PromiseTest::used, INDEX, "owes, no other", r -> r.owes(0, none, 0));
-            checks.refuses(PromiseTest::used, INDEX, "owes, none to none", r -> r.owes(none, none, 0));
+            checks.refuses(Rings::used, INDEX, "owes, no person", r -> r.owes(none, 0, 0));
+            checks.refuses(Rings::used, INDEX, "owes, no other", r -> r.owes(0, none, 0));
+            checks.refuses(Rings::used, INDEX, "owes, none to none", r -> r.owes(none, none, 0));
         }
         for (int cloth : new int[] {-1, 3, Integer.MIN_VALUE, Integer.MAX_VALUE}) {
-            checks.refuses(PromiseTest::used, INDEX, "owes, no cloth", r -> r.owes(1, 0, cloth));
-            checks.refuses(PromiseTest::used, INDEX, "owes oneself, no cloth", r -> r.owes(1, 1, cloth));
+            checks.refuses(Rings::used, INDEX, "owes, no cloth", r -> r.owes(1, 0, cloth));
+            checks.refuses(Rings::used, INDEX, "owes oneself, no cloth", r -> r.owes(1, 1, cloth));
         }
     }
 
@@ -824,7 +735,7 @@ public final class PromiseTest {
 
     private static void position() {
         checks.begin("promise 20");
-        DyeRing ring = used();
+        DyeRing ring = Rings.used();
         int[][] want = {{930, -621, -309, 0, 0}, {0, 0, 0, 7, -7}, {0, 0, 0, -5, 5}};
         for (int cloth = 0; cloth < 3; cloth++) {
             for (int person = 0; person < 5; person++) {
@@ -839,10 +750,10 @@ public final class PromiseTest {
         checks.answers(ring, 910, "position(0, 0) with debts both ways", r -> r.position(0, 0));
         checks.answers(ring, 20, "position(4, 0) with debts both ways", r -> r.position(4, 0));
         for (int person : new int[] {-1, 5, Integer.MIN_VALUE, Integer.MAX_VALUE}) {
-            checks.refuses(PromiseTest::used, INDEX, "position, no person", r -> r.position(person, 0));
+            checks.refuses(Rings::used, INDEX, "position, no person", r -> r.position(person, 0));
         }
         for (int cloth : new int[] {-1, 3, Integer.MIN_VALUE, Integer.MAX_VALUE}) {
-            checks.refuses(PromiseTest::used, INDEX, "position, no cloth", r -> r.position(0, cloth));
+            checks.refuses(Rings::used, INDEX, "position, no cloth", r -> r.position(0, cloth));
         }
     }
 
@@ -899,7 +810,7 @@ public final class PromiseTest {
         nets("all five", new int[][] {{1, 2, 3}, {3, 0, 2}, {3, 2, 1}, {3, 4, 2}},
                 new int[][] {{0, 1, 2}, {2, 1, 1}, {2, 3, 3}, {4, 3, 2}});
         for (int cloth : new int[] {-1, 3, Integer.MIN_VALUE, Integer.MAX_VALUE}) {
-            checks.refuses(PromiseTest::used, INDEX, "net, no cloth", r -> r.net(cloth));
+            checks.refuses(Rings::used, INDEX, "net, no cloth", r -> r.net(cloth));
         }
     }
 
@@ -916,8 +827,7 @@ public final class PromiseTest {
         checks.answers(ring, 200000, "owes(1, 0, 0)", r -> r.owes(1, 0, 0));
         checks.answers(ring, -200000, "position(1, 0)", r -> r.position(1, 0));
         ring.shrinks(0, 90);
-        checks.same("give(0, 1, 0, 1), which shrinks away", Checks.outcome(ring, r -> r.give(0, 1, 0, 1)),
-                "throws." + STATE.getName());
+        checks.fails(ring, STATE, "give(0, 1, 0, 1), which shrinks away", r -> r.give(0, 1, 0, 1));
         checks.answers(ring, 1, "give(1, 0, 0, 10)", r -> r.give(1, 0, 0, 10));
         checks.answers(ring, 1, "net(0) again", r -> r.net(0));
         checks.answers(ring, 199999, "owes(1, 0, 0) then", r -> r.owes(1, 0, 0));

@@ -5,17 +5,39 @@ final class Checks {
         int on(DyeRing ring);
     }
 
+    /** A call of a ring with one argument open. */
+    interface OpenCall {
+        int on(DyeRing ring, int value);
+    }
+
     /** Makes a ring and brings it into a state. */
     interface Maker {
         DyeRing make();
     }
 
+    private final boolean quiet;
     private int calls = 0;
     private int wrong = 0;
     private String promise = "";
 
+    Checks() {
+        this(false);
+    }
+
+    Checks(boolean quiet) {
+        this.quiet = quiet;
+    }
+
     void begin(String name) {
         promise = name;
+    }
+
+    int calls() {
+        return calls;
+    }
+
+    int wrong() {
+        return wrong;
     }
 
     /** What a call answers, as a text: the number, or the exception's name behind "throws.". */
@@ -37,7 +59,9 @@ final class Checks {
         calls++;
         if (!got.equals(want)) {
             wrong++;
-            System.out.println(promise + ": " + what + " answered " + got + ", due is " + want);
+            if (!quiet) {
+                System.out.println(promise + ": " + what + " answered " + got + ", due is " + want);
+            }
         }
     }
 
@@ -45,11 +69,34 @@ final class Checks {
         same(what, outcome(ring, call), Integer.toString(want));
     }
 
+    /** The call throws just this exception; what it leaves behind is for the caller to look at. */
+    void fails(DyeRing ring, Due want, String what, Call call) {
+        same(what, outcome(ring, call), want.outcome);
+    }
+
     /** The call throws just this exception, and the ring is then as one that was never called so. */
-    void refuses(Maker maker, Class<? extends RuntimeException> want, String what, Call call) {
-        DyeRing called = maker.make();
-        same(what, outcome(called, call), "throws." + want.getName());
-        same("the ring after " + what, Snapshot.of(called), Snapshot.of(maker.make()));
+    void refuses(Maker maker, Due want, String what, Call call) {
+        for (int part = 0; part < Snapshot.PARTS; part++) {
+            DyeRing called = maker.make();
+            fails(called, want, what, call);
+            same("the ring after " + what, Snapshot.of(called, part), Snapshot.of(maker.make(), part));
+        }
+    }
+
+    /** Every value of the range is taken; the first ones outside it, and far ones, are refused. */
+    void range(Maker maker, int least, int most, Due due, String what, OpenCall call) {
+        for (int i = least; i <= most; i++) {
+            int value = i;
+            String got = outcome(maker.make(), r -> call.on(r, value));
+            same(what + " of " + value + " is taken", String.valueOf(!got.startsWith("throws.")), "true");
+        }
+        // 256 and 65536 more would be inside the range again in a byte or a short
+        int[] outside = {least - 1, most + 1, least + 256, most + 65536, Integer.MIN_VALUE, Integer.MAX_VALUE};
+        for (int value : outside) {
+            if (value < least || value > most) {
+                refuses(maker, due, what + " of " + value, r -> call.on(r, value));
+            }
+        }
     }
 
     /** Ends the test: with exit code 1 if an answer was wrong. */
