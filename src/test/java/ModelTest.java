@@ -6,7 +6,7 @@ import java.util.Set;
 
 /** Runs of drawn calls, each answered by a ring and by a model that is written another way. */
 public final class ModelTest {
-    private static final int RUNS = 1500;
+    private static final int RUNS = 1000;
     private static final int CALLS = 512;
     private static final Set<String> ALLOWED = Set.of("throws.java.lang.IndexOutOfBoundsException",
             "throws.java.lang.IllegalArgumentException", "throws.java.lang.IllegalStateException",
@@ -69,17 +69,20 @@ public final class ModelTest {
         private final int books;
         private final int people;
         private final int wrongShare;
+        private int entriesAhead;
 
         Draw(int seed) {
             random = new Random(seed * 7919L + 17);
             weights = seed % 3 == 0 ? COLOURING : seed % 3 == 1 ? TRADING : ALL;
-            books = 1 + random.nextInt(4);
+            books = seed % 4 == 0 ? 12 : 1 + random.nextInt(4);
+            entriesAhead = weights == TRADING ? 0 : books;
             people = seed % 2 == 0 ? 2 : 5;
             wrongShare = seed % 5 == 0 ? 8 : 60;
         }
 
         int[] call() {
-            int kind = kind();
+            int kind = entriesAhead > 0 ? 0 : kind();
+            entriesAhead = Math.max(0, entriesAhead - 1);
             switch (kind) {
                 case 0: return args(kind, value(0, 60), value(0, 60), value(0, 20));
                 case 1: return args(kind, value(0, 2), value(-10, 10));
