@@ -16,6 +16,8 @@ final class LastCallSentences {
             last(c, 60, "freshen", r -> r.freshen(1));
             last(c, 60, "strength", r -> r.strength(1));
             last(c, 5, "order", r -> r.order(1, 1, 0));
+            // the bath 0, of the strength 60, gives (30, 18), and its water 7: (37, 18) against (50, 30)
+            last(c, 25, "dye", r -> r.dye(4, 0));
             last(c, 2, "claim", r -> r.claim(3));
             last(c, 2, "stateOf", r -> r.stateOf(2));
             last(c, 59, "colour", r -> r.colour(2, 0));
